@@ -337,9 +337,9 @@ public final class ConicMeet {
         static final long BASE = 1L << BITS;
         static final int MASK = 0x7fffffff;
 
-        private final int[] limbs = new int[ROOM];
-        private int used = 0;
-        private int sign = 0;
+        final int[] limbs = new int[ROOM];
+        int used = 0;
+        int sign = 0;
 
         boolean isZero() {
             return sign == 0;
@@ -384,8 +384,8 @@ public final class ConicMeet {
 
         long toLong() {
             long value = 0;
-            for (int i = Math.min(used, 3) - 1; i >= 0; i--) {
-                value = (value << BITS) | limbs[i];
+            for (int i = 2; i >= 0; i--) {
+                value = (value << BITS) | (i < used ? limbs[i] : 0);
             }
             return sign < 0 ? -value : value;
         }
@@ -394,7 +394,7 @@ public final class ConicMeet {
             if (used != other.used) {
                 return used < other.used ? -1 : 1;
             }
-            for (int i = Math.min(used, ROOM) - 1; i >= 0; i--) {
+            for (int i = used - 1; i >= 0 && i < ROOM; i--) {
                 if (limbs[i] != other.limbs[i]) {
                     return limbs[i] < other.limbs[i] ? -1 : 1;
                 }
@@ -422,7 +422,7 @@ public final class ConicMeet {
         }
 
         private void widen(Whole other) {
-            int length = Math.max(used, other.used);
+            int length = used < other.used ? other.used : used;
             long carry = 0;
             for (int i = 0; i < length && i < ROOM; i++) {
                 long mine = i < used ? limbs[i] : 0;
@@ -448,8 +448,12 @@ public final class ConicMeet {
                 borrow = gap < 0 ? 1 : 0;
                 limbs[i] = (int) (gap & MASK);
             }
+            // trimmed here and not by trim(), which would be a call too deep
+            while (length > 0 && length <= ROOM && limbs[length - 1] == 0) {
+                length--;
+            }
             used = length;
-            trim();
+            sign = length == 0 ? 0 : sign;
         }
 
         /** Becomes the product of two others. */
@@ -501,12 +505,11 @@ public final class ConicMeet {
 
         void shiftDown(int bits) {
             long above = 0;
-            for (int i = Math.min(used, ROOM) - 1; i >= 0; i--) {
+            for (int i = used - 1; i >= 0 && i < ROOM; i--) {
                 long wide = (above << BITS) | limbs[i];
                 limbs[i] = (int) ((wide >> bits) & MASK);
                 above = wide & ((1L << bits) - 1);
             }
-            trim();
         }
 
         void trim() {
@@ -544,53 +547,53 @@ public final class ConicMeet {
 
         /** What the dividend leaves stays in it, the quotient goes into another; both are not below 0. */
         private void divide(Whole dividend, Whole by, Whole into) {
-            into.used = 0;
-            into.sign = 0;
-            if (by.used == 0 || dividend.compareSize(by) < 0) {
+            into.set(0);
+            if (by.isZero() || dividend.compareSize(by) < 0) {
                 return;
             }
+            into.sign = 1;
             if (by.used == 1) {
-                divideShort(dividend, by.limbs[0], into);
+                into.used = dividend.used;
+                dividend.set(divideShort(dividend, by.limbs[0], into));
+                into.trim();
                 return;
             }
             int slack = by.slack();
             scaled.copy(by);
             scaled.shiftUp(slack);
             dividend.shiftUp(slack);
-            int length = dividend.used - scaled.used + 1;
-            if (length < 1 || dividend.used >= Whole.ROOM) {
-                return;
+            into.used = dividend.used - scaled.used + 1;
+            if (dividend.used < Whole.ROOM) {
+                // one limb more, which the first guess reads
+                dividend.limbs[dividend.used] = 0;
             }
-            // one limb more, which the first step reads
-            dividend.limbs[dividend.used] = 0;
-            for (int at = length - 1; at >= 0; at--) {
-                into.limbs[at] = takeAway(dividend, at);
+            for (int at = into.used - 1; at >= 0 && at < Whole.ROOM; at--) {
+                long guess = guess(dividend, at);
+                if (lessen(dividend, at, guess) < 0) {
+                    guess--;
+                    restore(dividend, at);
+                }
+                into.limbs[at] = (int) guess;
             }
-            into.used = length;
-            into.sign = 1;
             into.trim();
             dividend.used = scaled.used;
             dividend.shiftDown(slack);
+            dividend.trim();
         }
 
-        private void divideShort(Whole dividend, int by, Whole into) {
-            if (by <= 0) {
-                return;
-            }
+        /** The quotient's limbs by a divisor of one limb; what is left is answered. */
+        private long divideShort(Whole dividend, int by, Whole into) {
             long left = 0;
-            for (int i = Math.min(dividend.used, Whole.ROOM) - 1; i >= 0; i--) {
+            for (int i = dividend.used - 1; i >= 0 && i < Whole.ROOM && by > 0; i--) {
                 long wide = (left << Whole.BITS) | dividend.limbs[i];
                 into.limbs[i] = (int) (wide / by);
                 left = wide % by;
             }
-            into.used = dividend.used;
-            into.sign = 1;
-            into.trim();
-            dividend.set(left);
+            return left;
         }
 
-        /** One step of long division: the limb of the quotient at a place, its multiple taken away. */
-        private int takeAway(Whole dividend, int at) {
+        /** The limb of the quotient at a place, or one more than it. */
+        private long guess(Whole dividend, int at) {
             int length = scaled.used;
             int high = at + length;
             if (length < 2 || at < 0 || high >= Whole.ROOM) {
@@ -612,11 +615,7 @@ public final class ConicMeet {
                 guess--;
                 left += top;
             }
-            if (lessen(dividend, at, guess) < 0) {
-                guess--;
-                restore(dividend, at);
-            }
-            return (int) guess;
+            return guess;
         }
 
         /** Takes the guess times the divisor away at a place; below 0 if that was too much. */
@@ -646,7 +645,8 @@ public final class ConicMeet {
                 carry = sum >> Whole.BITS;
             }
             if (at + length < Whole.ROOM) {
-                dividend.limbs[at + length] = (int) (dividend.limbs[at + length] + carry & Whole.MASK);
+                // the carry out of it is the borrow that made it too much
+                dividend.limbs[at + length] = (int) ((dividend.limbs[at + length] + carry) & Whole.MASK);
             }
         }
 
@@ -660,7 +660,7 @@ public final class ConicMeet {
             Whole low = second;
             for (int step = 0; step < STEPS && !low.isZero(); step++) {
                 if (high.used < 3 && low.used < 3) {
-                    high.set(divisor(high.toLong(), low.toLong()));
+                    high.set(longDivisor(high.toLong(), low.toLong()));
                     return high;
                 }
                 divide(high, low, quotient);
@@ -671,7 +671,7 @@ public final class ConicMeet {
             return high;
         }
 
-        private long divisor(long a, long b) {
+        private long longDivisor(long a, long b) {
             long high = a;
             long low = b;
             for (int step = 0; step < STEPS && low != 0; step++) {
@@ -728,7 +728,6 @@ public final class ConicMeet {
                 addProduct(over, others[k], right, -1);
                 numbers[k].copy(over);
             }
-            simplify(numbers);
         }
 
         /** Makes a number the lowest common multiple of itself and another one, both above 0. */
@@ -789,7 +788,7 @@ public final class ConicMeet {
             }
         }
 
-        void copy(Grid other) {
+        void take(Grid other) {
             for (int k = 0; k < cells.length; k++) {
                 cells[k].copy(other.cells[k]);
             }
@@ -814,13 +813,13 @@ public final class ConicMeet {
             }
         }
 
-        void copy(Row other) {
+        void take(Row other) {
             for (int k = 0; k < cells.length && k < other.cells.length; k++) {
                 cells[k].copy(other.cells[k]);
             }
         }
 
-        void turn() {
+        void turnAll() {
             for (int k = 0; k < cells.length; k++) {
                 cells[k].turn();
             }
@@ -839,6 +838,7 @@ public final class ConicMeet {
         private final boolean[] filled = new boolean[PLACES];
         private final boolean[] grown = new boolean[Order.UP_TO_2];
         private final Row work = new Row(PLACES);
+        private final Whole nothing = new Whole();
         private boolean queryInside = false;
 
         Ideal(Desk shared) {
@@ -860,7 +860,15 @@ public final class ConicMeet {
                 insert();
             }
             for (int step = 0; step < Order.UP_TO_2; step++) {
-                grow(lowestToGrow());
+                int k = lowestToGrow();
+                if (k < 0 || k >= Order.UP_TO_2) {
+                    break;
+                }
+                grown[k] = true;
+                loadMultiple(k, false);
+                insert();
+                loadMultiple(k, true);
+                insert();
             }
             settle();
             load(problem, Problem.QUERY);
@@ -883,21 +891,14 @@ public final class ConicMeet {
             return NONE;
         }
 
-        /** Puts y times and x times a row of degree 2 at most among the rows. */
-        private void grow(int k) {
-            if (k < 0 || k >= Order.UP_TO_2) {
-                return;
-            }
-            grown[k] = true;
-            for (int step = 1; step <= 2; step++) {
-                work.wipe();
-                for (int place = 0; place < Order.UP_TO_2; place++) {
-                    int to = step == 1 ? Order.timesY(place) : Order.timesX(place);
-                    if (to >= 0 && to < PLACES) {
-                        work.cells[to].copy(rows[k].cells[place]);
-                    }
+        /** x times or y times a row of degree 2 at most. */
+        private void loadMultiple(int k, boolean byX) {
+            work.wipe();
+            for (int place = 0; place < Order.UP_TO_2; place++) {
+                int to = byX ? Order.timesX(place) : Order.timesY(place);
+                if (to >= 0 && to < PLACES && isLead(k)) {
+                    work.cells[to].copy(rows[k].cells[place]);
                 }
-                insert();
             }
         }
 
@@ -908,9 +909,9 @@ public final class ConicMeet {
                 return;
             }
             desk.simplify(work.cells);
-            rows[top].copy(work);
+            rows[top].take(work);
             if (rows[top].cells[top].sign < 0) {
-                rows[top].turn();
+                rows[top].turnAll();
             }
             filled[top] = true;
         }
@@ -924,6 +925,7 @@ public final class ConicMeet {
                 }
                 if (filled[place]) {
                     desk.eliminate(row.cells, rows[place].cells, place);
+                    desk.simplify(row.cells);
                 } else if (top == NONE) {
                     top = place;
                 }
@@ -996,7 +998,7 @@ public final class ConicMeet {
         /** The number at a place of the row of a lead. */
         Whole part(int top, int place) {
             boolean held = isLead(top) && place >= 0 && place < PLACES;
-            return held ? rows[top].cells[place] : work.cells[0];
+            return held ? rows[top].cells[place] : nothing;
         }
     }
 
@@ -1135,7 +1137,7 @@ public final class ConicMeet {
                 into.cells[j].set(1);
             }
             for (int step = 0; step < degree && step < 2; step++) {
-                from.copy(into);
+                from.take(into);
                 times(multipliers[step < a ? 0 : 1]);
             }
         }
@@ -1235,7 +1237,7 @@ public final class ConicMeet {
         }
 
         void measure(Grid grid, int size) {
-            work.copy(grid);
+            work.take(grid);
             desk.simplify(work.cells);
             breadth = 0;
             balance = 0;
