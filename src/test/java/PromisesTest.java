@@ -505,6 +505,7 @@ public final class PromisesTest {
         due("at", meet.at(-1, 1, 0), 1);
         for (int k : new int[] {-2, 2, 3, 4, MAX, MIN}) {
             due("at " + k, meet.at(k, 0, 0), 0);
+            due("at " + k + " is not the query's", meet.at(k, 1, 0), 0);
         }
         due("count(2) without zeros", without().count(2), 0);
         due("count(2) of endlessly many", endless().count(2), 2);
