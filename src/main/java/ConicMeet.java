@@ -331,29 +331,35 @@ public final class ConicMeet {
      * that every product and every pair of limbs is a long that is not below 0.
      */
     private static final class Whole {
-        // The widest number of any run has some 1,610 bits (see NOTES.md): 80 limbs are 2,480.
-        static final int ROOM = 80;
+        // In limbs. No number has more than some 1,610 bits, and only those of a desk or of an Inertia more than some
+        // 810 (see NOTES.md): the others have less room, so that an object stays small.
+        static final int WIDE = 64;
+        static final int NARROW = 32;
         static final int BITS = 31;
         static final long BASE = 1L << BITS;
         static final int MASK = 0x7fffffff;
 
-        final int[] limbs = new int[ROOM];
+        final int[] limbs;
         int used = 0;
         int sign = 0;
+
+        Whole(int room) {
+            limbs = new int[Math.max(room, 0)];
+        }
 
         boolean isZero() {
             return sign == 0;
         }
 
         boolean isOne() {
-            return sign == 1 && used == 1 && limbs[0] == 1;
+            return sign == 1 && used == 1 && limbs.length > 0 && limbs[0] == 1;
         }
 
         void set(long value) {
             long rest = value;
             used = 0;
             sign = value > 0 ? 1 : value < 0 ? -1 : 0;
-            for (int i = 0; i < 3 && rest != 0; i++) {
+            for (int i = 0; i < 3 && i < limbs.length && rest != 0; i++) {
                 long limb = rest % BASE;
                 limbs[i] = (int) (limb < 0 ? -limb : limb);
                 rest /= BASE;
@@ -362,10 +368,10 @@ public final class ConicMeet {
         }
 
         void copy(Whole other) {
-            for (int i = 0; i < other.used && i < ROOM; i++) {
+            used = other.used < limbs.length ? other.used : limbs.length;
+            for (int i = 0; i < used && i < limbs.length && i < other.limbs.length; i++) {
                 limbs[i] = other.limbs[i];
             }
-            used = other.used;
             sign = other.sign;
         }
 
@@ -379,13 +385,13 @@ public final class ConicMeet {
 
         /** Whether it is in -(2^63 - 1) .. 2^63 - 1. */
         boolean isLong() {
-            return used < 3 || used == 3 && limbs[2] == 1;
+            return used < 3 || used == 3 && limbs.length > 2 && limbs[2] == 1;
         }
 
         long toLong() {
             long value = 0;
             for (int i = 2; i >= 0; i--) {
-                value = (value << BITS) | (i < used ? limbs[i] : 0);
+                value = (value << BITS) | (i < used && i < limbs.length ? limbs[i] : 0);
             }
             return sign < 0 ? -value : value;
         }
@@ -394,7 +400,7 @@ public final class ConicMeet {
             if (used != other.used) {
                 return used < other.used ? -1 : 1;
             }
-            for (int i = used - 1; i >= 0 && i < ROOM; i--) {
+            for (int i = used - 1; i >= 0 && i < limbs.length && i < other.limbs.length; i--) {
                 if (limbs[i] != other.limbs[i]) {
                     return limbs[i] < other.limbs[i] ? -1 : 1;
                 }
@@ -422,16 +428,17 @@ public final class ConicMeet {
         }
 
         private void widen(Whole other) {
-            int length = used < other.used ? other.used : used;
+            int longer = used < other.used ? other.used : used;
+            int length = longer < limbs.length ? longer : limbs.length;
             long carry = 0;
-            for (int i = 0; i < length && i < ROOM; i++) {
+            for (int i = 0; i < length && i < limbs.length; i++) {
                 long mine = i < used ? limbs[i] : 0;
-                long others = i < other.used ? other.limbs[i] : 0;
+                long others = i < other.used && i < other.limbs.length ? other.limbs[i] : 0;
                 long sum = mine + others + carry;
                 limbs[i] = (int) (sum & MASK);
                 carry = sum >> BITS;
             }
-            if (carry != 0 && length < ROOM) {
+            if (carry != 0 && length < limbs.length) {
                 limbs[length] = (int) carry;
                 length++;
             }
@@ -440,16 +447,16 @@ public final class ConicMeet {
 
         /** The size becomes that of the large one less that of the small one; one of the two may be this. */
         private void setGap(Whole large, Whole small) {
-            int length = large.used;
-            int shorter = small.used;
+            int length = large.used < limbs.length ? large.used : limbs.length;
+            int shorter = small.used < small.limbs.length ? small.used : small.limbs.length;
             long borrow = 0;
-            for (int i = 0; i < length && i < ROOM; i++) {
+            for (int i = 0; i < length && i < limbs.length && i < large.limbs.length; i++) {
                 long gap = (long) large.limbs[i] - (i < shorter ? small.limbs[i] : 0) - borrow;
                 borrow = gap < 0 ? 1 : 0;
                 limbs[i] = (int) (gap & MASK);
             }
             // trimmed here and not by trim(), which would be a call too deep
-            while (length > 0 && length <= ROOM && limbs[length - 1] == 0) {
+            while (length > 0 && length <= limbs.length && limbs[length - 1] == 0) {
                 length--;
             }
             used = length;
@@ -458,20 +465,20 @@ public final class ConicMeet {
 
         /** Becomes the product of two others. */
         void setProduct(Whole a, Whole b) {
-            used = Math.min(a.used + b.used, ROOM);
+            used = Math.min(a.used + b.used, limbs.length);
             sign = a.sign * b.sign;
-            for (int i = 0; i < used && i < ROOM; i++) {
+            for (int i = 0; i < used && i < limbs.length; i++) {
                 limbs[i] = 0;
             }
-            for (int i = 0; i < a.used && i < ROOM; i++) {
+            for (int i = 0; i < a.used && i < a.limbs.length; i++) {
                 long factor = a.limbs[i];
                 long carry = 0;
-                for (int j = 0; j < b.used && i + j < ROOM; j++) {
+                for (int j = 0; j < b.used && j < b.limbs.length && i + j < limbs.length; j++) {
                     long sum = factor * b.limbs[j] + limbs[i + j] + carry;
                     limbs[i + j] = (int) (sum & MASK);
                     carry = sum >> BITS;
                 }
-                if (i + b.used < ROOM) {
+                if (i + b.used < limbs.length) {
                     limbs[i + b.used] = (int) carry;
                 }
             }
@@ -481,7 +488,7 @@ public final class ConicMeet {
         /** How far its highest limb is from having its highest bit. */
         int slack() {
             int shift = 0;
-            if (used > 0 && used <= ROOM) {
+            if (used > 0 && used <= limbs.length) {
                 int top = limbs[used - 1];
                 while (shift < BITS - 1 && ((top << shift) & (1 << (BITS - 1))) == 0) {
                     shift++;
@@ -492,12 +499,12 @@ public final class ConicMeet {
 
         void shiftUp(int bits) {
             long carry = 0;
-            for (int i = 0; i < used && i < ROOM; i++) {
+            for (int i = 0; i < used && i < limbs.length; i++) {
                 long wide = ((long) limbs[i] << bits) | carry;
                 limbs[i] = (int) (wide & MASK);
                 carry = wide >> BITS;
             }
-            if (carry != 0 && used < ROOM) {
+            if (carry != 0 && used < limbs.length) {
                 limbs[used] = (int) carry;
                 used++;
             }
@@ -505,7 +512,7 @@ public final class ConicMeet {
 
         void shiftDown(int bits) {
             long above = 0;
-            for (int i = used - 1; i >= 0 && i < ROOM; i--) {
+            for (int i = used - 1; i >= 0 && i < limbs.length; i--) {
                 long wide = (above << BITS) | limbs[i];
                 limbs[i] = (int) ((wide >> bits) & MASK);
                 above = wide & ((1L << bits) - 1);
@@ -513,7 +520,7 @@ public final class ConicMeet {
         }
 
         void trim() {
-            while (used > 0 && used <= ROOM && limbs[used - 1] == 0) {
+            while (used > 0 && used <= limbs.length && limbs[used - 1] == 0) {
                 used--;
             }
             if (used == 0) {
@@ -526,16 +533,16 @@ public final class ConicMeet {
     private static final class Desk {
         private static final int STEPS = 1000000;
 
-        private final Whole first = new Whole();
-        private final Whole second = new Whole();
-        private final Whole scaled = new Whole();
-        private final Whole quotient = new Whole();
-        private final Whole rest = new Whole();
-        private final Whole common = new Whole();
-        private final Whole left = new Whole();
-        private final Whole right = new Whole();
-        private final Whole product = new Whole();
-        private final Whole over = new Whole();
+        private final Whole first = new Whole(Whole.WIDE);
+        private final Whole second = new Whole(Whole.WIDE);
+        private final Whole scaled = new Whole(Whole.WIDE);
+        private final Whole quotient = new Whole(Whole.WIDE);
+        private final Whole rest = new Whole(Whole.WIDE);
+        private final Whole common = new Whole(Whole.WIDE);
+        private final Whole left = new Whole(Whole.WIDE);
+        private final Whole right = new Whole(Whole.WIDE);
+        private final Whole product = new Whole(Whole.WIDE);
+        private final Whole over = new Whole(Whole.WIDE);
 
         /** Adds a b to the sum (way 1) or takes it away (way -1). */
         void addProduct(Whole sum, Whole a, Whole b, int way) {
@@ -552,7 +559,7 @@ public final class ConicMeet {
                 return;
             }
             into.sign = 1;
-            if (by.used == 1) {
+            if (by.used == 1 && by.limbs.length > 0) {
                 into.used = dividend.used;
                 dividend.set(divideShort(dividend, by.limbs[0], into));
                 into.trim();
@@ -563,11 +570,11 @@ public final class ConicMeet {
             scaled.shiftUp(slack);
             dividend.shiftUp(slack);
             into.used = dividend.used - scaled.used + 1;
-            if (dividend.used < Whole.ROOM) {
+            if (dividend.used < dividend.limbs.length) {
                 // one limb more, which the first guess reads
                 dividend.limbs[dividend.used] = 0;
             }
-            for (int at = into.used - 1; at >= 0 && at < Whole.ROOM; at--) {
+            for (int at = into.used - 1; at >= 0 && at < into.limbs.length; at--) {
                 long guess = guess(dividend, at);
                 if (lessen(dividend, at, guess) < 0) {
                     guess--;
@@ -584,9 +591,11 @@ public final class ConicMeet {
         /** The quotient's limbs by a divisor of one limb; what is left is answered. */
         private long divideShort(Whole dividend, int by, Whole into) {
             long left = 0;
-            for (int i = dividend.used - 1; i >= 0 && i < Whole.ROOM && by > 0; i--) {
+            for (int i = dividend.used - 1; i >= 0 && i < dividend.limbs.length && by > 0; i--) {
                 long wide = (left << Whole.BITS) | dividend.limbs[i];
-                into.limbs[i] = (int) (wide / by);
+                if (i < into.limbs.length) {
+                    into.limbs[i] = (int) (wide / by);
+                }
                 left = wide % by;
             }
             return left;
@@ -596,7 +605,7 @@ public final class ConicMeet {
         private long guess(Whole dividend, int at) {
             int length = scaled.used;
             int high = at + length;
-            if (length < 2 || at < 0 || high >= Whole.ROOM) {
+            if (length < 2 || length > scaled.limbs.length || at < 0 || high >= dividend.limbs.length) {
                 return 0;
             }
             long top = scaled.limbs[length - 1];
@@ -622,13 +631,13 @@ public final class ConicMeet {
         private long lessen(Whole dividend, int at, long guess) {
             int length = scaled.used;
             long carry = 0;
-            for (int i = 0; i < length && at + i < Whole.ROOM; i++) {
+            for (int i = 0; i < length && at + i < dividend.limbs.length && i < scaled.limbs.length; i++) {
                 long gap = dividend.limbs[at + i] - guess * scaled.limbs[i] + carry;
                 dividend.limbs[at + i] = (int) (gap & Whole.MASK);
                 carry = gap >> Whole.BITS;
             }
             int high = at + length;
-            if (high >= Whole.ROOM) {
+            if (high >= dividend.limbs.length) {
                 return 0;
             }
             long gap = dividend.limbs[high] + carry;
@@ -639,12 +648,12 @@ public final class ConicMeet {
         private void restore(Whole dividend, int at) {
             int length = scaled.used;
             long carry = 0;
-            for (int i = 0; i < length && at + i < Whole.ROOM; i++) {
+            for (int i = 0; i < length && at + i < dividend.limbs.length && i < scaled.limbs.length; i++) {
                 long sum = (long) dividend.limbs[at + i] + scaled.limbs[i] + carry;
                 dividend.limbs[at + i] = (int) (sum & Whole.MASK);
                 carry = sum >> Whole.BITS;
             }
-            if (at + length < Whole.ROOM) {
+            if (at + length < dividend.limbs.length) {
                 // the carry out of it is the borrow that made it too much
                 dividend.limbs[at + length] = (int) ((dividend.limbs[at + length] + carry) & Whole.MASK);
             }
@@ -768,12 +777,13 @@ public final class ConicMeet {
         static final int SIDE = 4;
 
         final Whole[] cells = new Whole[SIDE * SIDE];
-        final Whole under = new Whole();
+        final Whole under;
 
-        Grid() {
+        Grid(int room) {
             for (int k = 0; k < cells.length; k++) {
-                cells[k] = new Whole();
+                cells[k] = new Whole(room);
             }
+            under = new Whole(room);
             under.set(1);
         }
 
@@ -803,7 +813,7 @@ public final class ConicMeet {
         Row(int length) {
             cells = new Whole[Math.max(length, 0)];
             for (int k = 0; k < cells.length; k++) {
-                cells[k] = new Whole();
+                cells[k] = new Whole(Whole.NARROW);
             }
         }
 
@@ -838,7 +848,7 @@ public final class ConicMeet {
         private final boolean[] filled = new boolean[PLACES];
         private final boolean[] grown = new boolean[Order.UP_TO_2];
         private final Row work = new Row(PLACES);
-        private final Whole nothing = new Whole();
+        private final Whole nothing = new Whole(Whole.NARROW);
         private boolean queryInside = false;
 
         Ideal(Desk shared) {
@@ -870,9 +880,8 @@ public final class ConicMeet {
                 loadMultiple(k, true);
                 insert();
             }
-            settle();
             load(problem, Problem.QUERY);
-            queryInside = reduce(work, PLACES) == NONE;
+            queryInside = reduce() == NONE;
         }
 
         private void load(Problem problem, int polynomial) {
@@ -902,9 +911,12 @@ public final class ConicMeet {
             }
         }
 
-        /** Puts what the rows leave of the work row, if that is not 0, among them. */
+        /**
+         * Puts what the rows leave of the work row, if that is not 0, among them, and rids them of its lead: no row
+         * ever has another one's lead, which keeps the numbers short.
+         */
         private void insert() {
-            int top = reduce(work, PLACES);
+            int top = reduce();
             if (top < 0 || top >= PLACES) {
                 return;
             }
@@ -914,32 +926,29 @@ public final class ConicMeet {
                 rows[top].turnAll();
             }
             filled[top] = true;
+            for (int k = top + 1; k < PLACES; k++) {
+                if (filled[k] && !rows[k].cells[top].isZero()) {
+                    desk.eliminate(rows[k].cells, rows[top].cells, top);
+                    desk.simplify(rows[k].cells);
+                }
+            }
         }
 
-        /** Rids a row of the rows' leads below a limit: the highest place at which something is left. */
-        private int reduce(Row row, int limit) {
+        /** Rids the work row of all leads: the highest place at which something is left. */
+        private int reduce() {
             int top = NONE;
-            for (int place = Math.min(limit, PLACES) - 1; place >= 0; place--) {
-                if (row.cells[place].isZero()) {
+            for (int place = PLACES - 1; place >= 0; place--) {
+                if (work.cells[place].isZero()) {
                     continue;
                 }
                 if (filled[place]) {
-                    desk.eliminate(row.cells, rows[place].cells, place);
-                    desk.simplify(row.cells);
+                    desk.eliminate(work.cells, rows[place].cells, place);
+                    desk.simplify(work.cells);
                 } else if (top == NONE) {
                     top = place;
                 }
             }
             return top;
-        }
-
-        /** From the lowest up, so that each row is rid by rows that are themselves rid. */
-        private void settle() {
-            for (int k = 0; k < PLACES; k++) {
-                if (filled[k]) {
-                    reduce(rows[k], k);
-                }
-            }
         }
 
         boolean isLead(int place) {
@@ -1017,8 +1026,8 @@ public final class ConicMeet {
         private final Row[] weights = new Row[FORMS];
         private final Row from = new Row(SIDE);
         private final Row into = new Row(SIDE);
-        private final Whole scale = new Whole();
-        private final Whole square = new Whole();
+        private final Whole scale = new Whole(Whole.NARROW);
+        private final Whole square = new Whole(Whole.NARROW);
         private final int[] breadths = new int[FORMS];
         private final int[] balances = new int[FORMS];
 
@@ -1026,12 +1035,12 @@ public final class ConicMeet {
             desk = shared;
             inertia = new Inertia(shared);
             for (int k = 0; k < FORMS; k++) {
-                multipliers[k] = new Grid();
-                traces[k] = new Grid();
+                multipliers[k] = new Grid(Whole.NARROW);
+                traces[k] = new Grid(Whole.NARROW);
                 weights[k] = new Row(SIDE);
             }
             for (int k = 0; k < SIDE; k++) {
-                products[k] = new Grid();
+                products[k] = new Grid(Whole.NARROW);
             }
         }
 
@@ -1225,10 +1234,10 @@ public final class ConicMeet {
         private static final int SIDE = Grid.SIDE;
 
         private final Desk desk;
-        private final Grid work = new Grid();
+        private final Grid work = new Grid(Whole.WIDE);
         private final boolean[] open = new boolean[SIDE];
-        private final Whole pivot = new Whole();
-        private final Whole cell = new Whole();
+        private final Whole pivot = new Whole(Whole.WIDE);
+        private final Whole cell = new Whole(Whole.WIDE);
         int breadth = 0;
         int balance = 0;
 

@@ -33,7 +33,7 @@ public final class InertiaTest {
 
     private static void compare(Object inertia, int[][] table) throws Exception {
         int size = table.length;
-        Object grid = made("ConicMeet$Grid").newInstance();
+        Object grid = made("ConicMeet$Grid").newInstance(32);
         Method read = method(grid, "read", int.class, int.class);
         Oracle.Q[][] exact = new Oracle.Q[size][size];
         for (int i = 0; i < size; i++) {

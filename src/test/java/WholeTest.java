@@ -124,9 +124,9 @@ public final class WholeTest {
     }
 
     private static Object made(Class<?> of) throws Exception {
-        Constructor<?> c = of.getDeclaredConstructor();
+        Constructor<?> c = of.getDeclaredConstructors()[0];
         c.setAccessible(true);
-        return c.newInstance();
+        return c.getParameterCount() == 0 ? c.newInstance() : c.newInstance(32);
     }
 
     private static Class<?> inner(String name) {
