@@ -2,14 +2,30 @@
 final class Check {
     private int wrong = 0;
     private int made = 0;
+    private int sentences = 0;
+    private String sentence = "";
+
+    /** The document's sentence that the next calls are about. */
+    void about(String words) {
+        sentences++;
+        sentence = "[" + words + "] ";
+    }
 
     void due(String call, long got, long want) {
         made++;
         if (got != want) {
             wrong++;
             if (wrong <= 50) {
-                System.out.println(call + " answered " + got + ", due is " + want);
+                System.out.println(sentence + call + " answered " + got + ", due is " + want);
             }
+        }
+    }
+
+    void due(String call, String got, String want) {
+        made++;
+        if (!got.equals(want)) {
+            wrong++;
+            System.out.println(sentence + call + " answered\n  " + got + "\ndue is\n  " + want);
         }
     }
 
@@ -24,12 +40,13 @@ final class Check {
         }
         if (got != want) {
             wrong++;
-            System.out.println(call + " threw " + got + ", due is " + want);
+            System.out.println(sentence + call + " threw " + got + ", due is " + want);
         }
     }
 
     void end() {
-        System.out.println(made + " answers, " + wrong + " not as due");
+        String about = sentences == 0 ? "" : " about " + sentences + " sentences";
+        System.out.println(made + " answers" + about + ", " + wrong + " not as due");
         if (wrong != 0) {
             System.exit(1);
         }
@@ -50,6 +67,29 @@ final class Check {
         }
     }
 
+    /** A new object with a system and a query. */
+    static ConicMeet told(int[] query, int[]... system) {
+        ConicMeet meet = new ConicMeet();
+        for (int[] polynomial : system) {
+            tell(meet, polynomial);
+        }
+        ask(meet, query);
+        return meet;
+    }
+
+    /** A new object with a system and a query, solved. */
+    static ConicMeet solved(int[] query, int[]... system) {
+        ConicMeet meet = told(query, system);
+        meet.solve();
+        return meet;
+    }
+
+    /** A polynomial by its coefficients of 1, y, x, yy, xy, xx. */
+    static int[] p(int... coefficients) {
+        return coefficients;
+    }
+
+    static final int[] ZERO = new int[6];
     static final int[] A = {0, 0, 1, 0, 1, 2};
     static final int[] B = {0, 1, 0, 2, 1, 0};
 }

@@ -1,3 +1,4 @@
+import java.lang.reflect.Array;
 import java.lang.reflect.Constructor;
 import java.lang.reflect.Field;
 import java.lang.reflect.Method;
@@ -5,6 +6,7 @@ import java.lang.reflect.Modifier;
 import java.nio.file.Files;
 import java.nio.file.Path;
 import java.util.Arrays;
+import java.util.IdentityHashMap;
 import java.util.Set;
 import java.util.TreeSet;
 
@@ -22,6 +24,7 @@ public final class FaceTest {
         inside();
         words();
         room();
+        size();
         CHECK.end();
     }
 
@@ -97,6 +100,37 @@ public final class FaceTest {
             least = Math.min(least, bean.getThreadAllocatedBytes(self) - before);
         }
         CHECK.due("bytes that the calls made: " + least, least < 4096 ? 1 : 0, 1);
+    }
+
+    /** The dearest call is the constructor: 512 of them have room among 600,000 objects and 7.3 million elements. */
+    private static void size() throws Exception {
+        long[] made = new long[2];
+        measure(new ConicMeet(), made, new IdentityHashMap<>());
+        CHECK.due("objects and arrays of one object: " + made[0], 512 * made[0] < 600000 ? 1 : 0, 1);
+        CHECK.due("fields and elements of one object: " + made[1], 512 * made[1] < 7300000 ? 1 : 0, 1);
+    }
+
+    private static void measure(Object of, long[] made, IdentityHashMap<Object, Object> seen) throws Exception {
+        if (of == null || seen.put(of, of) != null) {
+            return;
+        }
+        made[0]++;
+        if (of.getClass().isArray()) {
+            made[1] += Array.getLength(of);
+            for (int k = 0; k < Array.getLength(of) && of instanceof Object[]; k++) {
+                measure(Array.get(of, k), made, seen);
+            }
+            return;
+        }
+        for (Field f : of.getClass().getDeclaredFields()) {
+            if (!Modifier.isStatic(f.getModifiers())) {
+                made[1]++;
+                f.setAccessible(true);
+                if (!f.getType().isPrimitive()) {
+                    measure(f.get(of), made, seen);
+                }
+            }
+        }
     }
 
     private static void busy(ConicMeet meet) {

@@ -47,6 +47,7 @@ public final class WholeTest {
             same(c + " - " + d, sum, c.subtract(d));
         }
         longs();
+        fractions(desk);
         CHECK.end();
     }
 
@@ -71,6 +72,50 @@ public final class WholeTest {
             same("set", w, BigInteger.valueOf(v));
             CHECK.due("toLong " + v, (Long) toLong.invoke(w), v);
         }
+    }
+
+    /** No system of a test has a fraction just at the edge, so it is told to the desk itself. */
+    private static void fractions(Object desk) throws Exception {
+        CHECK.about("Fractions are told in lowest terms .. If one of the two is not -(2^63 - 1) .. 2^63 - 1, both are "
+            + "told as HUGE");
+        BigInteger out = BigInteger.ONE.shiftLeft(63);
+        BigInteger in = out.subtract(BigInteger.ONE);
+        BigInteger one = BigInteger.ONE;
+        long max = Long.MAX_VALUE;
+        long huge = ConicMeet.HUGE;
+        for (BigInteger factor : new BigInteger[] {one, BigInteger.TWO, BigInteger.valueOf(15), out, in.multiply(in)}) {
+            fraction(desk, in, one, factor, max, 1);
+            fraction(desk, in.negate(), one, factor, -max, 1);
+            fraction(desk, out, one, factor, huge, huge);
+            fraction(desk, out.negate(), one, factor, huge, huge);
+            fraction(desk, one, in, factor, 1, max);
+            fraction(desk, one.negate(), in, factor, -1, max);
+            fraction(desk, one, out, factor, huge, huge);
+            fraction(desk, one.negate(), out, factor, huge, huge);
+            fraction(desk, in, in.subtract(one), factor, max, max - 1);
+            fraction(desk, in.negate(), in.subtract(one), factor, -max, max - 1);
+            fraction(desk, in, out, factor, huge, huge);
+            fraction(desk, out, in, factor, huge, huge);
+            fraction(desk, out.negate(), in, factor, huge, huge);
+            fraction(desk, out.shiftLeft(1), one, factor, huge, huge);
+            fraction(desk, out.shiftLeft(64).add(one), BigInteger.TWO, factor, huge, huge);
+            fraction(desk, one, out.shiftLeft(64), factor, huge, huge);
+            fraction(desk, BigInteger.ZERO, one, factor, 0, 1);
+            fraction(desk, one, one, factor, 1, 1);
+            fraction(desk, BigInteger.valueOf(-7), BigInteger.valueOf(3), factor, -7, 3);
+        }
+    }
+
+    private static void fraction(Object desk, BigInteger over, BigInteger under, BigInteger factor, long wantOver,
+            long wantUnder) throws Exception {
+        Method tell = method(DESK, "tell", WHOLE, WHOLE, int.class);
+        Object above = whole(over.multiply(factor));
+        Object below = whole(under.multiply(factor));
+        String name = over + " by " + under + " widened by " + factor;
+        CHECK.due("numerator of " + name, (Long) tell.invoke(desk, above, below, 0), wantOver);
+        CHECK.due("denominator of " + name, (Long) tell.invoke(desk, above, below, 1), wantUnder);
+        same("what is told stays", above, over.multiply(factor));
+        same("what is told stays", below, under.multiply(factor));
     }
 
     private static BigInteger number(Random random, int limbs) {
