@@ -627,7 +627,10 @@ public final class ConicMeet {
             return guess;
         }
 
-        /** Takes the guess times the divisor away at a place; below 0 if that was too much. */
+        /**
+         * Takes the guess times the divisor away at a place; below 0 if that was too much. The highest limb is not
+         * read again, so it is left as it is.
+         */
         private long lessen(Whole dividend, int at, long guess) {
             int length = scaled.used;
             long carry = 0;
@@ -637,12 +640,7 @@ public final class ConicMeet {
                 carry = gap >> Whole.BITS;
             }
             int high = at + length;
-            if (high >= dividend.limbs.length) {
-                return 0;
-            }
-            long gap = dividend.limbs[high] + carry;
-            dividend.limbs[high] = (int) (gap & Whole.MASK);
-            return gap;
+            return high < dividend.limbs.length ? dividend.limbs[high] + carry : 0;
         }
 
         private void restore(Whole dividend, int at) {
@@ -652,10 +650,6 @@ public final class ConicMeet {
                 long sum = (long) dividend.limbs[at + i] + scaled.limbs[i] + carry;
                 dividend.limbs[at + i] = (int) (sum & Whole.MASK);
                 carry = sum >> Whole.BITS;
-            }
-            if (at + length < dividend.limbs.length) {
-                // the carry out of it is the borrow that made it too much
-                dividend.limbs[at + length] = (int) ((dividend.limbs[at + length] + carry) & Whole.MASK);
             }
         }
 

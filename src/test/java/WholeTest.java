@@ -33,9 +33,9 @@ public final class WholeTest {
                 same(a + " % " + b, rest, a.mod(b));
                 same(a + " / " + b, quotient, a.divide(b));
             }
-            same("gcd " + a + " " + b, divisor.invoke(desk, whole(a), whole(b.negate())), a.gcd(b));
             BigInteger c = random.nextBoolean() ? a : a.negate();
             BigInteger d = random.nextBoolean() ? b : b.negate();
+            same("gcd " + c + " " + d, divisor.invoke(desk, whole(c), whole(d)), a.gcd(b));
             Object sum = whole(c);
             product.invoke(sum, whole(c), whole(d));
             same(c + " * " + d, sum, c.multiply(d));
