@@ -380,6 +380,18 @@ final class Oracle {
         return new int[] {left - right, c.length - 1 - common};
     }
 
+    /** The roots of the characteristic polynomial of x + t y: the zeros' own, if it tells them apart. */
+    int[] roots(int t) {
+        int n = standard.size();
+        Q[][] m = new Q[n][n];
+        for (int i = 0; i < n; i++) {
+            for (int j = 0; j < n; j++) {
+                m[i][j] = tableX[i][j].plus(tableY[i][j].times(Q.of(t)));
+            }
+        }
+        return roots(characteristic(m));
+    }
+
     private static Q[] turnedRest(Q[] high, Q[] low) {
         Q[] r = high.clone();
         for (int top = r.length - 1; top >= low.length - 1; top--) {

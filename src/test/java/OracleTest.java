@@ -183,7 +183,7 @@ public final class OracleTest {
         CHECK.due(run + "remainder beyond", meet.remainder(n, 0), -1);
     }
 
-    /** Different and real zeros by the roots of x + 7 y + 3 xy .. : a polynomial that separates the zeros. */
+    /** Different and real zeros by the roots of x + t y: some t tells the zeros apart. */
     private static void compareCounts(String run, ConicMeet meet, Oracle oracle) {
         if (oracle.kind != 1) {
             long want = oracle.kind == 0 ? 0 : -1;
@@ -196,7 +196,7 @@ public final class OracleTest {
         int complex = 0;
         int real = 0;
         for (int t = 1; t <= 11; t++) {
-            int[] roots = Oracle.roots(Oracle.characteristic(mixed(oracle, t)));
+            int[] roots = oracle.roots(t);
             if (roots[1] > complex) {
                 complex = roots[1];
                 real = roots[0];
@@ -208,16 +208,5 @@ public final class OracleTest {
         CHECK.due(run + "real 1", meet.real(1), (apart + oracle.signatures[1]) / 2);
         CHECK.due(run + "real 0", meet.real(0), real - apart);
         CHECK.due(run + "real -1", meet.real(-1), (apart - oracle.signatures[1]) / 2);
-    }
-
-    private static Oracle.Q[][] mixed(Oracle oracle, int t) {
-        int n = oracle.standard.size();
-        Oracle.Q[][] m = new Oracle.Q[n][n];
-        for (int i = 0; i < n; i++) {
-            for (int j = 0; j < n; j++) {
-                m[i][j] = oracle.tableX[i][j].plus(oracle.tableY[i][j].times(Oracle.Q.of(t)));
-            }
-        }
-        return m;
     }
 }
